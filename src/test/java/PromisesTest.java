@@ -622,6 +622,7 @@ public final class PromisesTest {
 
     private static void reading() {
         promise = "20";
+        versions();
         PulledSignals x = withCells(1);
         memo(x, "a+1");
         x.scope(NONE);
@@ -642,6 +643,20 @@ public final class PromisesTest {
         x.dispose(2);
         due("gone", x.read(1), LONG_STUCK);
         due("a scope that is gone", x.read(2), LONG_BAD);
+    }
+
+    private static void versions() {
+        PulledSignals x = withCells(1);
+        memo(x, "a*0");
+        memo(x, "b");
+        due("no version yet", x.cellOf(1, 4), 0);
+        due("the first outcome is 0", x.read(2), 0);
+        due("a version all the same", x.cellOf(1, 4), 1);
+        x.write(0, 3);
+        x.read(2);
+        due("the same outcome", x.cellOf(1, 4), 1);
+        due("but another run", x.cellOf(1, 5), 2);
+        due("its reader was but checked", x.cellOf(2, 5), 1);
     }
 
     private static void failing() {
@@ -741,11 +756,11 @@ public final class PromisesTest {
         promise = "24";
         PulledSignals x = withCells(3);
         String[] told = {"1", "007", "~a", "-a", "--1", "a+b-c", "a+b*c", "(a+b)*c", "a*b/c%2", "-a*b", "-(a*b)",
-            "a<b+1", "(a<b)=(b>c)", "[a+1?b:c<1]", "^(a-1,-b)", "((((a))))", "a-b*c-1", "[a?[b?1:2]:^(1,2)]+1",
-            "1-~b", "a+b+c+1"};
+            "a<b+1", "(a<b)=(b>c)", "[a+1?b:c<1]", "^(a-1,-b)", "((((a))))", "[a?[b?1:2]:^(1,2)]+1",
+            "1-~b", "-[a?b:c]*2", "--^(a,b)-1"};
         String[] want = {"1", "007", "~a", "(-a)", "(-(-1))", "((a+b)-c)", "(a+(b*c))", "((a+b)*c)", "(((a*b)/c)%2)",
             "((-a)*b)", "(-(a*b))", "(a<(b+1))", "((a<b)=(b>c))", "[(a+1)?b:(c<1)]", "^((a-1),(-b))", "a",
-            "((a-(b*c))-1)", "([a?[b?1:2]:^(1,2)]+1)", "(1-~b)", "(((a+b)+c)+1)"};
+            "([a?[b?1:2]:^(1,2)]+1)", "(1-~b)", "((-[a?b:c])*2)", "((-(-^(a,b)))-1)"};
         for (int i = 0; i < told.length; i++) {
             int m = memo(x, told[i]);
             dueText(told[i], spelled(x, m), want[i]);
@@ -1054,6 +1069,7 @@ public final class PromisesTest {
         due("n 20", x.judge(1, 20), 0);
         due("n 21", x.judge(1, 21), BAD);
         due("n -1", x.judge(1, -1), BAD);
+        due("n ahead of a cell", x.judge(3, 21), BAD);
         due("shelf", x.judge(8, 0), BAD);
         due("nothing", x.judge(2, 0), NOTHING);
         x.show(3, 0);
@@ -1151,6 +1167,8 @@ public final class PromisesTest {
         due("a shelf with the same cell", x.holds(1), 11);
         due("a row stays", x.holds(2), 0);
         dueText("formula", spelled(x, 2), "(a+b)");
+        due("reads", x.reads(2, 0) * 10 + x.reads(2, 1), 1);
+        due("reads", x.cellOf(2, 6), 2);
         due("kept", x.kept(2), 1);
         due("colour", x.cellOf(2, 3), 2);
         x.wipe();
