@@ -65,6 +65,7 @@ public final class PromisesTest {
         rings();
         workingOut();
         deepTapes();
+        multiplyingRings();
         System.out.println("PromisesTest: " + tested + " answers, " + wrong + " wrong");
         if (wrong != 0) {
             System.exit(1);
@@ -1293,5 +1294,27 @@ public final class PromisesTest {
         }
         due("a chain of all", y.read(23), 28);
         due("plain", y.plain(23), 28);
+    }
+
+    /** Each memo asks three times for the one ahead, which two others by turns have made dirty again. */
+    private static void multiplyingRings() {
+        promise = "20, a read that ends";
+        PulledSignals x = new PulledSignals();
+        memo(x, "1");
+        memo(x, "a");
+        x.read(1);
+        reform(x, 0, "1-b");
+        x.read(0);
+        for (int c = 2; c < 24; c++) {
+            String ahead = (c == 2 ? 'a' : (char) ('a' + c - 1)) + "+a+b";
+            memo(x, ahead + "+" + ahead + "+" + ahead);
+        }
+        int[] runs = {6, 21, 63, 189};
+        for (int c = 2; c < 6; c++) {
+            int had = x.status(6);
+            x.read(c);
+            due("runs of " + c, x.status(6) - had, runs[c - 2]);
+        }
+        due("the greatest ends", x.read(23) > LONG_BAD + 10 ? 1 : 0, 1);
     }
 }
