@@ -49,8 +49,6 @@ public final class PulledSignals {
     private static final int DAYS_LIMIT = 60;
     private static final int AIM_LIMIT = 20;
     private static final int AIM_NONE = 100;
-    /** Far above what a call needs; rings built to multiply their runs would else never end. */
-    private static final int RUNS_LIMIT = 1_000_000;
 
     // Steps of a formula; the first eight are the signs by their bits in signs().
     private static final int PLUS = 0;
@@ -183,7 +181,7 @@ public final class PulledSignals {
         switch (kind) {
             case SOURCE:
             case MEMO:
-                return cell.version;
+                return (int) cell.version;
             case COMPUTED:
                 return cell.reads.size();
             case EFFECT:
@@ -300,7 +298,7 @@ public final class PulledSignals {
         }
         puller.writeTo(cell, v);
         puller.flushUnlessBatch();
-        return source.version;
+        return (int) source.version;
     }
 
     public int begin() {
@@ -372,13 +370,13 @@ public final class PulledSignals {
             case 3:
                 return asked.colour;
             case 4:
-                return asked.version;
+                return (int) asked.version;
             case 5:
                 return asked.runs;
             case 6:
                 return asked.reads.size();
             case 7:
-                return web.readersOfAny(1 << cell);
+                return web.readersOf(cell);
             case 8:
                 return web.ownedBy(cell);
             case 9:
@@ -1303,13 +1301,12 @@ public final class PulledSignals {
         private boolean gone;
         private boolean busy;
         private int colour;
-        private int version;
+        /** Rings can make more versions than an int tells, and only the first may be 0. */
+        private long version;
         private int runs;
         private long outcome;
         private Formula formula;
         private final Numbers reads = new Numbers(CELLS_LIMIT);
-        /** The reads once more, as bits: readers are sought far more often than reads change. */
-        private int readBits;
 
         void become(int newKind, int newOwner, long newOutcome, Formula newFormula) {
             kind = newKind;
@@ -1321,7 +1318,7 @@ public final class PulledSignals {
             runs = 0;
             outcome = newOutcome;
             formula = newFormula;
-            clearReads();
+            reads.clear();
         }
 
         void takeFrom(Cell other) {
@@ -1335,7 +1332,6 @@ public final class PulledSignals {
             outcome = other.outcome;
             formula = other.formula;
             reads.takeFrom(other.reads);
-            readBits = other.readBits;
         }
 
         boolean isOf(int asked) {
@@ -1346,23 +1342,13 @@ public final class PulledSignals {
         boolean isReadable() {
             return !gone && (kind == SOURCE || kind == MEMO);
         }
-
-        void addRead(int number) {
-            if ((readBits >> number & 1) == 0) {
-                reads.add(number);
-                readBits |= 1 << number;
-            }
-        }
-
-        void clearReads() {
-            reads.clear();
-            readBits = 0;
-        }
     }
 
     /** All that an image keeps: cells, queue, log, disposed, batches, seed. */
     private static final class Web {
         private final Cell[] cells = new Cell[CELLS_LIMIT];
+        /** Of each cell its readers, as bits: the reads once more, from their other end. */
+        private final int[] readers = new int[CELLS_LIMIT];
         private int count;
         private final Numbers queue = new Numbers(CELLS_LIMIT);
         private final Numbers logCells = new Numbers(KEPT_LIMIT);
@@ -1422,6 +1408,9 @@ public final class PulledSignals {
                     cell.takeFrom(same);
                 }
             }
+            for (int i = 0; i < readers.length && i < other.readers.length; i++) {
+                readers[i] = other.readers[i];
+            }
             count = other.count;
             queue.takeFrom(other.queue);
             logCells.takeFrom(other.logCells);
@@ -1444,12 +1433,39 @@ public final class PulledSignals {
             return bits;
         }
 
-        int readersOfAny(int wanted) {
+        void addRead(int reader, int number) {
+            Cell cell = cell(reader);
+            if (cell == null || number < 0 || number >= readers.length
+                    || (readers[number] >> reader & 1) != 0) {
+                return;
+            }
+            cell.reads.add(number);
+            readers[number] |= 1 << reader;
+        }
+
+        void clearReads(int reader) {
+            Cell cell = cell(reader);
+            if (cell == null) {
+                return;
+            }
+            for (int i = 0; i < cell.reads.size(); i++) {
+                int number = cell.reads.at(i);
+                if (number >= 0 && number < readers.length) {
+                    readers[number] &= ~(1 << reader);
+                }
+            }
+            cell.reads.clear();
+        }
+
+        int readersOf(int number) {
+            return number >= 0 && number < readers.length ? readers[number] : 0;
+        }
+
+        private int readersOfAny(int wanted) {
             int bits = 0;
-            for (int i = 0; i < count && i < cells.length; i++) {
-                Cell cell = cells[i];
-                if (cell != null && (cell.readBits & wanted) != 0) {
-                    bits |= 1 << i;
+            for (int i = 0; i < readers.length; i++) {
+                if ((wanted >> i & 1) != 0) {
+                    bits |= readers[i];
                 }
             }
             return bits;
@@ -1479,12 +1495,11 @@ public final class PulledSignals {
             return found;
         }
 
-        private int readsOfAny(int readers) {
+        private int readsOfAny(int wanted) {
             int bits = 0;
-            for (int i = 0; i < count && i < cells.length; i++) {
-                Cell cell = cells[i];
-                if (cell != null && (readers >> i & 1) != 0) {
-                    bits |= cell.readBits;
+            for (int i = 0; i < readers.length; i++) {
+                if ((readers[i] & wanted) != 0) {
+                    bits |= 1 << i;
                 }
             }
             return bits;
@@ -1553,14 +1568,12 @@ public final class PulledSignals {
     /** Pushes marks from what changes, and pulls outcomes by what is asked for. */
     private static final class Puller {
         private final Web web;
-        private int runsLeft;
 
         Puller(Web web) {
             this.web = web;
         }
 
         void pull(int number) {
-            runsLeft = RUNS_LIMIT;
             refresh(number, 0);
         }
 
@@ -1568,8 +1581,7 @@ public final class PulledSignals {
             if (web.batches > 0) {
                 return;
             }
-            runsLeft = RUNS_LIMIT;
-            for (int taken = 0; taken < FLUSH_LIMIT && web.queue.size() > 0 && runsLeft > 0; taken++) {
+            for (int taken = 0; taken < FLUSH_LIMIT && web.queue.size() > 0; taken++) {
                 int first = web.queue.at(0);
                 web.queue.drop(first);
                 refresh(first, 0);
@@ -1595,7 +1607,7 @@ public final class PulledSignals {
             }
             cell.formula = formula;
             colour(1 << number, 0);
-            int readers = web.readersOfAny(1 << number);
+            int readers = web.readersOf(number);
             colour(0, readers | web.hangingOn(readers));
         }
 
@@ -1621,20 +1633,20 @@ public final class PulledSignals {
             }
             cell.gone = true;
             cell.colour = CLEAN;
-            cell.clearReads();
+            web.clearReads(number);
             web.queue.drop(number);
             web.disposed.add(number);
             mark(number);
         }
 
         private void mark(int number) {
-            int readers = web.readersOfAny(1 << number);
+            int readers = web.readersOf(number);
             colour(readers, web.hangingOn(readers));
         }
 
         /** Those of the first bits are dirty; those of the second to be checked, if clean. */
         private void colour(int dirty, int checked) {
-            for (int i = 0; i < web.count(); i++) {
+            for (int i = 0; (dirty | checked) >>> i != 0 && i < web.count(); i++) {
                 Cell cell = web.cell(i);
                 if (cell == null) {
                     continue;
@@ -1653,8 +1665,7 @@ public final class PulledSignals {
 
         private void refresh(int number, int depth) {
             Cell cell = web.cell(number);
-            if (cell == null || cell.busy || cell.colour == CLEAN || runsLeft <= 0
-                    || depth > CELLS_LIMIT) {
+            if (cell == null || cell.busy || cell.colour == CLEAN || depth > CELLS_LIMIT) {
                 return;
             }
             cell.busy = true;
@@ -1681,8 +1692,7 @@ public final class PulledSignals {
         }
 
         private void runOnce(Cell cell, int number, int depth) {
-            runsLeft--;
-            cell.clearReads();
+            web.clearReads(number);
             if (cell.kind == EFFECT) {
                 disposeOwned(number, 0);
             }
@@ -1703,7 +1713,7 @@ public final class PulledSignals {
             if (outcome != cell.outcome || cell.version == 0) {
                 cell.outcome = outcome;
                 cell.version++;
-                colour(web.readersOfAny(1 << number), 0);
+                colour(web.readersOf(number), 0);
             }
         }
 
@@ -1714,7 +1724,7 @@ public final class PulledSignals {
                 return UNREADABLE;
             }
             if (formula.isTracked() && number != readerNumber) {
-                reader.addRead(number);
+                web.addRead(readerNumber, number);
             }
             if (cell.busy) {
                 return RING;

@@ -65,7 +65,8 @@ public final class PromisesTest {
         rings();
         workingOut();
         deepTapes();
-        multiplyingRings();
+        ringsThatMultiply();
+        millionsOfRuns();
         System.out.println("PromisesTest: " + tested + " answers, " + wrong + " wrong");
         if (wrong != 0) {
             System.exit(1);
@@ -1297,8 +1298,7 @@ public final class PromisesTest {
     }
 
     /** Each memo asks three times for the one ahead, which two others by turns have made dirty again. */
-    private static void multiplyingRings() {
-        promise = "20, a read that ends";
+    private static PulledSignals multiplyingRings() {
         PulledSignals x = new PulledSignals();
         memo(x, "1");
         memo(x, "a");
@@ -1309,12 +1309,59 @@ public final class PromisesTest {
             String ahead = (c == 2 ? 'a' : (char) ('a' + c - 1)) + "+a+b";
             memo(x, ahead + "+" + ahead + "+" + ahead);
         }
+        return x;
+    }
+
+    private static void ringsThatMultiply() {
+        promise = "20, rings that multiply their runs";
+        PulledSignals x = multiplyingRings();
         int[] runs = {6, 21, 63, 189};
         for (int c = 2; c < 6; c++) {
             int had = x.status(6);
             x.read(c);
             due("runs of " + c, x.status(6) - had, runs[c - 2]);
         }
-        due("the greatest ends", x.read(23) > LONG_BAD + 10 ? 1 : 0, 1);
+    }
+
+    /** a is -b, b is a, c is b+a; each of 13 behind them asks three times for the one ahead, and for b. */
+    private static PulledSignals thirteenThrice() {
+        PulledSignals x = new PulledSignals();
+        memo(x, "1");
+        memo(x, "a");
+        x.read(1);
+        reform(x, 0, "-b");
+        x.read(0);
+        memo(x, "b+a");
+        for (char ahead = 'c'; ahead < 'c' + 13; ahead++) {
+            memo(x, ahead + "+b+" + ahead + "+b+" + ahead);
+        }
+        return x;
+    }
+
+    /** No number of runs ends a read or a flush: these make 5,580,130 each. */
+    private static void millionsOfRuns() {
+        promise = "20, millions of runs";
+        PulledSignals x = thirteenThrice();
+        due("read", x.read(15), 0);
+        dueMillions(x);
+        due("all runs", x.status(6), 5_580_133);
+        PulledSignals y = thirteenThrice();
+        due("effect", effect(y, "p"), 16);
+        due("log", y.logged(0), 0);
+        due("runs", y.cellOf(16, 5), 1);
+        y.dispose(16);
+        dueMillions(y);
+    }
+
+    private static void dueMillions(PulledSignals x) {
+        int thrice = 1;
+        for (int cell = 15; cell >= 2; cell--) {
+            due("runs of " + cell, x.cellOf(cell, 5), thrice);
+            due("colour of " + cell, x.cellOf(cell, 3), 0);
+            thrice *= 3;
+        }
+        due("runs of a", x.cellOf(0, 5), 1_594_325);
+        due("versions of a", x.cellOf(0, 4), 1_594_325);
+        due("runs of b", x.cellOf(1, 5), 1_594_324);
     }
 }
