@@ -707,7 +707,16 @@ public final class PulledSignals {
         }
 
         int last() {
-            return at(size - 1);
+            return size > 0 && size <= items.length ? items[size - 1] : NONE;
+        }
+
+        /** The last one, which goes. */
+        int take() {
+            if (size <= 0 || size > items.length) {
+                return NONE;
+            }
+            size--;
+            return items[size];
         }
 
         boolean has(int number) {
@@ -941,12 +950,12 @@ public final class PulledSignals {
                     place = detail;
                     break;
                 case JUMP_IF_ZERO:
-                    if (taken() == 0) {
+                    if (stack.take() == 0) {
                         place = detail;
                     }
                     break;
                 case NEGATE:
-                    stack.add(-taken());
+                    stack.add(-stack.take());
                     break;
                 default:
                     join(step);
@@ -955,19 +964,13 @@ public final class PulledSignals {
         }
 
         private void join(int sign) {
-            int right = taken();
-            int left = taken();
+            int right = stack.take();
+            int left = stack.take();
             if (right == 0 && (sign == OVER || sign == REST)) {
                 fail = ZERO;
             } else {
                 stack.add(joined(sign, left, right));
             }
-        }
-
-        private int taken() {
-            int top = stack.last();
-            stack.dropLast();
-            return top;
         }
     }
 
@@ -992,6 +995,8 @@ public final class PulledSignals {
         private int at;
         private int fault;
         private boolean wantsPart;
+        /** A part was read to its end, and what is open right ahead of it doesn't know yet. */
+        private boolean partStands;
 
         int fault() {
             return fault;
@@ -1006,6 +1011,9 @@ public final class PulledSignals {
                     readPart(tape);
                 } else {
                     readSign(tape.at(at));
+                }
+                if (partStands) {
+                    endPart();
                 }
             }
             if (fault != NONE) {
@@ -1032,6 +1040,7 @@ public final class PulledSignals {
             at = 0;
             fault = NONE;
             wantsPart = true;
+            partStands = false;
         }
 
         private void readPart(Numbers tape) {
@@ -1086,7 +1095,7 @@ public final class PulledSignals {
             text.add(letter);
             at += 2;
             addStep(UNTRACKED, letter - 'a');
-            endPart();
+            partStands = true;
         }
 
         private void readPlainPart(Numbers tape, int sign) {
@@ -1095,11 +1104,11 @@ public final class PulledSignals {
                 text.add(sign);
                 at++;
                 addStep(TRACKED, sign - 'a');
-                endPart();
+                partStands = true;
             } else if (isDigit(sign)) {
                 partText.add(text.size());
                 addStep(NUMBER, readNumber(tape));
-                endPart();
+                partStands = true;
             } else {
                 fault = at;
             }
@@ -1123,8 +1132,9 @@ public final class PulledSignals {
             return sign >= '0' && sign <= '9';
         }
 
-        /** A part stands: the minuses right ahead of it take it, and a sign is wanted. */
+        /** The minuses right ahead of a part take it, and a sign is wanted. */
         private void endPart() {
+            partStands = false;
             deepest = Math.max(deepest, partText.size());
             for (int i = 0; i < TAPE_LIMIT && open.last() == NEGATE; i++) {
                 addStep(NEGATE, 0);
@@ -1184,7 +1194,7 @@ public final class PulledSignals {
                 case WAITS_END:
                     details.put(openJump.last(), steps.size());
                     closeWithPart();
-                    endPart();
+                    partStands = true;
                     break;
                 case WAITS_COMMA:
                     open.put(open.size() - 1, WAITS_GREATER_END);
@@ -1194,11 +1204,11 @@ public final class PulledSignals {
                     addStep(GREATER, 0);
                     partText.dropLast();
                     closeWithPart();
-                    endPart();
+                    partStands = true;
                     break;
                 default:
                     closeDown();
-                    endPart();
+                    partStands = true;
                     break;
             }
         }
@@ -1461,22 +1471,17 @@ public final class PulledSignals {
             return number >= 0 && number < readers.length ? readers[number] : 0;
         }
 
-        private int readersOfAny(int wanted) {
-            int bits = 0;
-            for (int i = 0; i < readers.length; i++) {
-                if ((wanted >> i & 1) != 0) {
-                    bits |= readers[i];
-                }
-            }
-            return bits;
-        }
-
-        /** Readers of these, readers of those, and so on. */
-        int hangingOn(int these) {
+        /** Readers of the readers of a cell, readers of those, and so on. */
+        int furtherReadersOf(int number) {
             int found = 0;
-            int edge = these;
+            int edge = readersOf(number);
             for (int round = 0; round <= CELLS_LIMIT && edge != 0; round++) {
-                int next = readersOfAny(edge);
+                int next = 0;
+                for (int i = 0; i < readers.length; i++) {
+                    if ((edge >> i & 1) != 0) {
+                        next |= readers[i];
+                    }
+                }
                 edge = next & ~found;
                 found |= next;
             }
@@ -1488,21 +1493,16 @@ public final class PulledSignals {
             int found = 0;
             int edge = 1 << number;
             for (int round = 0; round <= CELLS_LIMIT && edge != 0; round++) {
-                int next = readsOfAny(edge);
+                int next = 0;
+                for (int i = 0; i < readers.length; i++) {
+                    if ((readers[i] & edge) != 0) {
+                        next |= 1 << i;
+                    }
+                }
                 edge = next & ~found;
                 found |= next;
             }
             return found;
-        }
-
-        private int readsOfAny(int wanted) {
-            int bits = 0;
-            for (int i = 0; i < readers.length; i++) {
-                if ((readers[i] & wanted) != 0) {
-                    bits |= 1 << i;
-                }
-            }
-            return bits;
         }
 
         int goneCount() {
@@ -1596,7 +1596,7 @@ public final class PulledSignals {
             }
             source.outcome = v;
             source.version++;
-            mark(number);
+            colour(web.readersOf(number), web.furtherReadersOf(number));
             return true;
         }
 
@@ -1607,8 +1607,7 @@ public final class PulledSignals {
             }
             cell.formula = formula;
             colour(1 << number, 0);
-            int readers = web.readersOf(number);
-            colour(0, readers | web.hangingOn(readers));
+            colour(0, web.readersOf(number) | web.furtherReadersOf(number));
         }
 
         void disposeOf(int number) {
@@ -1636,12 +1635,7 @@ public final class PulledSignals {
             web.clearReads(number);
             web.queue.drop(number);
             web.disposed.add(number);
-            mark(number);
-        }
-
-        private void mark(int number) {
-            int readers = web.readersOf(number);
-            colour(readers, web.hangingOn(readers));
+            colour(web.readersOf(number), web.furtherReadersOf(number));
         }
 
         /** Those of the first bits are dirty; those of the second to be checked, if clean. */

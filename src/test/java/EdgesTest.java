@@ -27,6 +27,8 @@ public final class EdgesTest {
         owners();
         theTapeAfterwards();
         theTwentyFourth();
+        theFirst();
+        theFirstAsAnEffect();
         readingEachKind();
         readingAheadOfTheFlush();
         keeping();
@@ -54,6 +56,8 @@ public final class EdgesTest {
         images();
         imagesOfMarks();
         numbersUsedAgain();
+        cellsThatCameAnew();
+        imagesOfLongLogs();
         backAndBack();
         statuses();
         due.end();
@@ -497,6 +501,55 @@ public final class EdgesTest {
         due.is("dispose", x.dispose(23), 1);
         due.is("disposed", x.disposed(0), 23);
         due.is("its number stays its own", x.source(1, NONE), -6);
+    }
+
+    private static void theFirst() {
+        due.says("CELLS have numbers, 0 on");
+        PulledSignals x = new PulledSignals();
+        due.is("memo", Due.memo(x, "1"), 0);
+        due.is("source", x.source(5, NONE), 1);
+        Due.reform(x, 0, "b+1");
+        due.is("plain", x.plain(0), 6);
+        due.is("whatIf", x.whatIf(1, 9, 0), 10);
+        due.is("plain again", x.plain(0), 6);
+        due.is("aim", x.aim(1, 0, 8), 7);
+        due.is("news", x.news(1, 9), 1);
+        due.is("colour", x.colours(2), 1);
+        due.is("read", x.read(0), 6);
+        due.is("runs", x.status(6), 1);
+        due.is("readers", x.cellOf(1, 7), 1);
+        due.is("reads", x.reads(0, 0), 1);
+        due.is("reaches", x.reaches(0, 1) * 10 + x.cellOf(0, 10), 11);
+        x.write(1, 7);
+        due.is("dirty", x.cellOf(0, 3), 2);
+        due.is("plain", x.plain(0), 8);
+        due.is("kept", x.kept(0), 6);
+        x.show(0, 0);
+        due.is("holds", x.holds(0), 10);
+        due.is("says", x.says(0, 3), 1);
+        due.is("dispose", x.dispose(0), 1);
+        due.is("disposed", x.disposed(0), 0);
+        due.is("gone", x.status(1), 1);
+    }
+
+    private static void theFirstAsAnEffect() {
+        due.says("CELLS have numbers, 0 on");
+        PulledSignals x = new PulledSignals();
+        due.is("effect", Due.effect(x, "7"), 0);
+        due.is("log", x.log(0), 0);
+        due.is("logged", x.logged(0), 7);
+        due.is("owned", x.source(5, 0), 1);
+        due.is("owns", x.cellOf(0, 8), 2);
+        x.begin();
+        due.is("reform", Due.reform(x, 0, "b"), 1);
+        due.is("queued", x.queued(0), 0);
+        due.is("in the queue", x.cellOf(0, 9), 1);
+        x.row(0, 2, 2);
+        x.set(0, 1, 7);
+        due.is("judge", x.judge(0, 1), NONE);
+        x.end();
+        due.is("its own went first", x.logged(1), Due.UNREADABLE);
+        due.is("disposed", x.disposed(0), 1);
     }
 
     // ---- promises 16 to 21
@@ -1278,6 +1331,66 @@ public final class EdgesTest {
         due.is("read", x.read(1), 5);
         due.is("version", x.cellOf(1, 4), 1);
         due.is("a shelf holds nothing still", x.holds(1), NONE);
+        x.dispose(2);
+        x.image();
+        x.show(4, 2);
+        x.show(5, 1);
+        x.dispose(1);
+        x.back();
+        due.is("one that is gone now, as it was", x.holds(4), 12);
+        due.is("one that isn't gone again", x.holds(5), 11);
+        due.is("gone", x.cellOf(2, 2) * 10 + x.cellOf(1, 2), 10);
+    }
+
+    private static void cellsThatCameAnew() {
+        due.says("40: All is again as it was kept; a new COMPUTED is DIRTY, its OUTCOME 0, no READS");
+        PulledSignals x = Due.withSources(5);
+        x.image();
+        Due.memo(x, "a");
+        x.read(1);
+        Due.effect(x, "a+b");
+        x.write(0, 6);
+        x.read(1);
+        x.show(0, 2);
+        x.show(1, 0);
+        x.back();
+        due.is("no such cell", x.holds(0), NONE);
+        due.is("that one is there", x.holds(1), 10);
+        x.begin();
+        due.is("effect", Due.effect(x, "a"), 1);
+        due.is("colour", x.cellOf(1, 3), 2);
+        due.is("version, runs, reads", x.cellOf(1, 4) + x.cellOf(1, 5) + x.cellOf(1, 6), 0);
+        due.is("outcome", x.kept(1), 0);
+        due.is("readers", x.cellOf(0, 7), 0);
+        due.is("memo", Due.memo(x, "a"), 2);
+        dueNew(x, 2, 3, NONE, 2, 0);
+        x.write(0, 7);
+        due.text("queue", Due.queue(x), "b");
+        x.end();
+        due.is("logged", x.logged(0), 7);
+        due.is("log", x.status(4), 1);
+    }
+
+    private static void imagesOfLongLogs() {
+        due.says("40: All is again as it was kept; more are counted");
+        PulledSignals x = Due.withSources(0);
+        Due.effect(x, "a");
+        for (int i = 1; i < 62; i++) {
+            x.write(0, i);
+        }
+        x.source(1, NONE);
+        x.dispose(2);
+        x.image();
+        x.write(0, 0);
+        x.dispose(0);
+        due.is("counted", x.status(4) * 10 + x.status(5), 642);
+        x.back();
+        due.is("counted", x.status(4) * 10 + x.status(5), 621);
+        due.is("the 60th", x.logged(59), 59);
+        due.is("disposed", x.disposed(0), 2);
+        due.is("no more", x.disposed(1), -2);
+        x.write(0, 0);
+        due.is("one more", x.status(4), 63);
     }
 
     private static void backAndBack() {

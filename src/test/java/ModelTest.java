@@ -1,9 +1,13 @@
 /**
- * Long runs of calls by fixed draws, each answered by PulledSignals and by NaiveSignals; behind each
- * call all that can be seen of the two is held against each other.
+ * Runs of 512 calls by fixed draws, each answered by PulledSignals and by NaiveSignals; behind each
+ * call that may change something, a drawn part of all that can be seen of the two is held against
+ * each other. Told "all", it looks at all of it, with more calls than the document promises.
  */
 public final class ModelTest {
     private static final int SHOWN = 20;
+    private static final int PROMISED_CALLS = 512;
+    /** What one drawn call may need at most, but for a formula that is fed. */
+    private static final int KEPT_BACK = 45;
 
     private static int wrong = 0;
     private static long dearest = 0;
@@ -12,21 +16,23 @@ public final class ModelTest {
     private long state;
     private PulledSignals x;
     private NaiveSignals y;
-    private String call;
-    private int sentIn;
+    private int left = PROMISED_CALLS;
+    private final boolean looksAtAll;
     private final StringBuilder run = new StringBuilder();
     private final int style;
 
-    private ModelTest(long seed, int style) {
+    private ModelTest(long seed, int style, boolean looksAtAll) {
         state = seed * 2862933555777941757L + 3037000493L;
         this.style = style;
+        this.looksAtAll = looksAtAll;
     }
 
     public static void main(String[] args) {
-        int runs = args.length > 0 ? Integer.parseInt(args[0]) : 2400;
+        int runs = args.length > 0 ? Integer.parseInt(args[0]) : 12_000;
         long first = args.length > 1 ? Long.parseLong(args[1]) : 1;
+        boolean all = args.length > 2 && args[2].equals("all");
         for (long seed = first; seed < first + runs && wrong < SHOWN; seed++) {
-            new ModelTest(seed, (int) (seed % 4)).play(220);
+            new ModelTest(seed, (int) (seed % 4), all).play();
         }
         System.out.println("ModelTest: " + runs + " runs, " + wrong + " wrong; dearest call " + dearest
                 + " runs of formulas; flushes cut " + cut);
@@ -48,26 +54,40 @@ public final class ModelTest {
         return draw(n) == 0;
     }
 
+    /** Holds one call of each against the other; each call of x is counted here. */
     private void same(String told, long got, long want) {
+        left--;
         if (got != want) {
             wrong++;
             System.out.println("ModelTest: " + run + " then " + told + " answered " + got + ", due is " + want);
         }
     }
 
-    private void play(int calls) {
+    private void play() {
         x = new PulledSignals();
         y = new NaiveSignals();
         if (style == 3 && oneIn(3)) {
             turnRound();
         }
-        for (int i = 0; i < calls && wrong < SHOWN; i++) {
+        int changes = 0;
+        while (wrong < SHOWN && (looksAtAll ? changes < 220 : left > KEPT_BACK)) {
             long ahead = y.runsMade;
             oneCall();
+            changes++;
             dearest = Math.max(dearest, y.runsMade - ahead);
-            if (wrong == 0) {
+            if (looksAtAll) {
                 look();
+            } else {
+                glance();
+                glance();
             }
+        }
+        while (!looksAtAll && left > 0 && wrong < SHOWN) {
+            glance();
+        }
+        if (!looksAtAll && left != 0) {
+            wrong++;
+            System.out.println("ModelTest: a run of " + (PROMISED_CALLS - left) + " calls");
         }
         cut += y.flushesCut;
     }
@@ -92,7 +112,7 @@ public final class ModelTest {
     }
 
     private int anyCell() {
-        int count = x.status(0);
+        int count = y.status(0);
         if (count == 0 || oneIn(25)) {
             return draw(30) - 3;
         }
@@ -102,7 +122,7 @@ public final class ModelTest {
     private int aSource() {
         for (int i = 0; i < 12; i++) {
             int c = anyCell();
-            if (x.status(0) > c && c >= 0 && x.cellOf(c, 0) == 1 && y.cellOf(c, 0) == 1) {
+            if (c >= 0 && c < y.status(0) && y.cellOf(c, 0) == 1) {
                 return c;
             }
         }
@@ -116,7 +136,7 @@ public final class ModelTest {
         if (oneIn(2)) {
             for (int i = 0; i < 8; i++) {
                 int c = anyCell();
-                if (c >= 0 && c < x.status(0) && x.cellOf(c, 0) >= 4 && y.cellOf(c, 0) >= 4) {
+                if (c >= 0 && c < y.status(0) && y.cellOf(c, 0) >= 4) {
                     return c;
                 }
             }
@@ -142,7 +162,7 @@ public final class ModelTest {
     }
 
     private String letter() {
-        int count = x.status(0);
+        int count = y.status(0);
         if (count == 0 || oneIn(60)) {
             return oneIn(2) ? "7" : String.valueOf((char) ('a' + draw(26)));
         }
@@ -207,13 +227,16 @@ public final class ModelTest {
 
     private void feedFormula() {
         String s = formula();
-        if (x.status(7) > 0 && !oneIn(4)) {
+        if (y.status(7) > 0 && !oneIn(4)) {
             note("wipe()", x.wipe(), y.wipe());
         }
         feedText(s);
     }
 
     private void feedText(String s) {
+        if (!looksAtAll && s.length() > left - KEPT_BACK) {
+            return;
+        }
         for (int i = 0; i < s.length(); i++) {
             note("feed(" + (int) s.charAt(i) + ")", x.feed(s.charAt(i)), y.feed(s.charAt(i)));
         }
@@ -351,15 +374,51 @@ public final class ModelTest {
     /** A row that tells the log as it is, but for one number now and then. */
     private void judgeWhatIsLogged(int s, int n) {
         note("row(" + s + ", 3, 40)", x.row(s, 3, 40), y.row(s, 3, 40));
-        for (int k = 0; k < n && k < x.status(4); k++) {
+        for (int k = 0; k < Math.min(n, y.status(4)); k++) {
             int e = y.log(k) + (oneIn(9) ? 1 : 0);
             long v = y.logged(k);
-            x.log(k);
-            x.logged(k);
             note("set(" + s + ", " + 2 * k + ", " + e + ")", x.set(s, 2 * k, e), y.set(s, 2 * k, e));
             note("set(" + s + ", " + (2 * k + 1) + ", " + v + ")", x.set(s, 2 * k + 1, v), y.set(s, 2 * k + 1, v));
         }
         note("judge(" + s + ", " + n + ")", x.judge(s, n), y.judge(s, n));
+    }
+
+    /** One drawn thing that can be seen. */
+    private void glance() {
+        int c = anyCell();
+        int i = draw(4);
+        int s = draw(8);
+        switch (draw(12)) {
+            case 0: same("kept(" + c + ")", x.kept(c), y.kept(c)); break;
+            case 1: same("reads(" + c + ", " + i + ")", x.reads(c, i), y.reads(c, i)); break;
+            case 2: same("queued(" + i + ")", x.queued(i), y.queued(i)); break;
+            case 3:
+                int last = Math.min(60, y.status(4)) - i;
+                same("log(" + last + ")", x.log(last), y.log(last));
+                break;
+            case 4:
+                int told = Math.min(60, y.status(4)) - i;
+                same("logged(" + told + ")", x.logged(told), y.logged(told));
+                break;
+            case 5:
+                int gone = Math.min(60, y.status(5)) - i;
+                same("disposed(" + gone + ")", x.disposed(gone), y.disposed(gone));
+                break;
+            case 6: same("holds(" + s + ")", x.holds(s), y.holds(s)); break;
+            case 7:
+                int what = draw(20) - 1;
+                same("status(" + what + ")", x.status(what), y.status(what));
+                break;
+            case 8:
+                int letter = draw(oneIn(3) ? 60 : 8);
+                same("spelled(" + c + ", " + letter + ")", x.spelled(c, letter), y.spelled(c, letter));
+                break;
+            case 9: same("plain(" + c + ")", x.plain(c), y.plain(c)); break;
+            default:
+                int of = draw(11);
+                same("cellOf(" + c + ", " + of + ")", x.cellOf(c, of), y.cellOf(c, of));
+                break;
+        }
     }
 
     private void look() {

@@ -106,14 +106,6 @@ public final class PromisesTest {
         return x.reform(cell);
     }
 
-    private static String spelled(PulledSignals x, int cell) {
-        StringBuilder text = new StringBuilder();
-        for (int i = 0; x.spelled(cell, i) != NONE && i < 1000; i++) {
-            text.append((char) x.spelled(cell, i));
-        }
-        return text.toString();
-    }
-
     private static void dueText(String told, String got, String want) {
         tested++;
         if (!got.equals(want)) {
@@ -405,7 +397,6 @@ public final class PromisesTest {
 
     private static void faults() {
         promise = "13, FAULT";
-        PulledSignals x = withCells(2);
         String[] texts = {"", "+", "1+", "1234", "12a", "c", "~", "~1", "~~a", "a~b", "(", "(1", "(1]", "()", "1)",
             "[1", "[1?", "[1?2", "[1?2:", "[1?2:3", "[1:2", "[1?2?3", "[1?2:3:", "[1?2]", "^", "^1", "^(", "^(1", "^(1)",
             "^(1,", "^(1,2", "^(1,2,", "1<2<3", "1<2=3", "(1<2)>3<4", "1<", "-", "--", "-+1", "1--", "1 ", " 1", "A",
@@ -415,11 +406,13 @@ public final class PromisesTest {
             4, 5, 5, 3, 3, 7, 2, 1, 2, 1, 3, 1, 0, 0,
             2, 1, 1, 1, 4, 9, 7, 1, 1, 1, 1};
         for (int i = 0; i < texts.length; i++) {
+            PulledSignals x = withCells(2);
             due("fault of " + texts[i], memo(x, texts[i]), -200 - places[i]);
             due("fault of " + texts[i], effect(x, texts[i]), -200 - places[i]);
+            due("cells", x.status(0), 2);
+            due("refused", x.status(12), 2);
         }
-        due("cells", x.status(0), 2);
-        due("refused", x.status(12), 2 * texts.length);
+        PulledSignals x = withCells(2);
         String[] good = {"1", "12", "123", "a", "~a", "-1", "--a", "(1)", "[1?2:3]", "^(1,2)", "1<2", "(1<2)<(3<4)",
             "a-~b", "1--1", "[1<2?3<4:5<6]", "^(1<2,3<4)", "-(1<2)", "000"};
         for (int i = 0; i < good.length; i++) {
@@ -505,7 +498,7 @@ public final class PromisesTest {
         x.end();
         due("effect", x.kept(4), 5);
         due("fault", reform(x, 2, "b+"), -202);
-        dueText("formula", spelled(x, 2), "(b+c)");
+        dueText("formula", Seen.formula(x, 2), "(b+c)");
         feed(x, "+");
         due("no computed", x.reform(0), BAD);
         due("tape", x.status(7), 0);
@@ -765,7 +758,7 @@ public final class PromisesTest {
             "([a?[b?1:2]:^(1,2)]+1)", "(1-~b)", "((-[a?b:c])*2)", "((-(-^(a,b)))-1)"};
         for (int i = 0; i < told.length; i++) {
             int m = memo(x, told[i]);
-            dueText(told[i], spelled(x, m), want[i]);
+            dueText(told[i], Seen.formula(x, m), want[i]);
             due("behind it", x.spelled(m, want[i].length()), NONE);
             due("ahead of it", x.spelled(m, -1), NONE);
         }
@@ -780,7 +773,7 @@ public final class PromisesTest {
         effect(x, "a");
         due("effect", x.spelled(23, 0), 'a');
         reform(x, 23, "b+1");
-        dueText("another formula", spelled(x, 23), "(b+1)");
+        dueText("another formula", Seen.formula(x, 23), "(b+1)");
     }
 
     private static void plainOutcomes() {
@@ -1168,7 +1161,7 @@ public final class PromisesTest {
         due("a shelf with no cell now", x.holds(0), NONE);
         due("a shelf with the same cell", x.holds(1), 11);
         due("a row stays", x.holds(2), 0);
-        dueText("formula", spelled(x, 2), "(a+b)");
+        dueText("formula", Seen.formula(x, 2), "(a+b)");
         due("reads", x.reads(2, 0) * 10 + x.reads(2, 1), 1);
         due("reads", x.cellOf(2, 6), 2);
         due("kept", x.kept(2), 1);
@@ -1276,18 +1269,9 @@ public final class PromisesTest {
             }
             due("too early", x.memo(NONE), -200 - 250 / piece.length() * piece.length());
         }
-        PulledSignals x = new PulledSignals();
-        feed(x, "-".repeat(249) + "1");
-        due("minuses", x.memo(NONE), 0);
-        due("outcome", x.read(0), -1);
-        due("spelled", spelled(x, 0).length(), 249 * 3 + 1);
-        feed(x, "(".repeat(124) + "7" + ")".repeat(124));
-        due("brackets", x.memo(NONE), 1);
-        due("outcome", x.read(1), 7);
-        feed(x, "1" + "+1".repeat(124));
-        due("sums", x.memo(NONE), 2);
-        due("outcome", x.read(2), 125);
-        due("spelled", spelled(x, 2).length(), 249 + 2 * 124);
+        longestTape("-".repeat(249) + "1", -1, 249 * 3 + 1);
+        longestTape("(".repeat(124) + "7" + ")".repeat(124), 7, 1);
+        longestTape("1" + "+1".repeat(124), 125, 249 + 2 * 124);
         PulledSignals y = new PulledSignals();
         y.source(5, NONE);
         for (int i = 1; i < 24; i++) {
@@ -1295,6 +1279,14 @@ public final class PromisesTest {
         }
         due("a chain of all", y.read(23), 28);
         due("plain", y.plain(23), 28);
+    }
+
+    private static void longestTape(String text, int outcome, int spelled) {
+        PulledSignals x = new PulledSignals();
+        due("memo", memo(x, text), 0);
+        due("outcome", x.read(0), outcome);
+        due("the last letter", x.spelled(0, spelled - 1) >= 0 ? 1 : 0, 1);
+        due("behind it", x.spelled(0, spelled), NONE);
     }
 
     /** Each memo asks three times for the one ahead, which two others by turns have made dirty again. */

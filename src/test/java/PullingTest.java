@@ -7,6 +7,7 @@ public final class PullingTest {
         untracked();
         itself();
         busy();
+        checkedIsBusy();
         busyUntracked();
         refreshedByReading();
         cleanIsNothing();
@@ -34,6 +35,7 @@ public final class PullingTest {
         flushAsLongAs();
         flushBehindEachCall();
         flushOfAHundred();
+        flushCountsWhatIsTaken();
         noFlushBehindOthers();
         batches();
         theLogKeepsSixty();
@@ -135,6 +137,27 @@ public final class PullingTest {
         due.text("colours", Due.colours(x), "...");
         Due.reform(x, 1, "a");
         due.is("well again", x.read(2), 14);
+    }
+
+    private static void checkedIsBusy() {
+        due.says("One that is CHECKED is BUSY, too");
+        PulledSignals x = Due.withSources(7);
+        Due.memo(x, "a");
+        Due.memo(x, "b+a");
+        due.is("no ring yet", x.read(2), 14);
+        Due.reform(x, 1, "a+c*0");
+        due.text("colours", Due.colours(x), ".!?");
+        due.is("read of the one to be checked", x.read(2), Due.RING);
+        due.is("kept of the one that ran for it", x.kept(1), Due.RING);
+        due.text("reads of b", Due.reads(x, 1), "ac");
+        due.text("reads of c", Due.reads(x, 2), "b");
+        due.text("runs", Due.runs(x), "022");
+        due.text("colours", Due.colours(x), ".!.");
+        PulledSignals y = Due.withSources(7);
+        Due.memo(y, "a");
+        Due.effect(y, "b");
+        Due.reform(y, 1, "a+c");
+        due.is("an effect is unreadable, busy or not", y.kept(2), Due.UNREADABLE);
     }
 
     private static void busyUntracked() {
@@ -774,36 +797,81 @@ public final class PullingTest {
         due.is("the one that waits is gone", x.status(4), 1301);
     }
 
+    private static void flushCountsWhatIsTaken() {
+        due.says("when 100 have been taken out in one FLUSH");
+        PulledSignals x = endless();
+        Due.memo(x, "c*0");
+        Due.effect(x, "f");
+        due.is("all of them ran", x.status(4), 201);
+        due.is("an effect but to be checked", x.cellOf(6, 3), 0);
+        x.begin();
+        x.write(2, 9);
+        due.is("left and to be checked", x.status(3), 2);
+        due.is("its colour", x.cellOf(6, 3), 1);
+        x.end();
+        due.is("it is taken out, but doesn't run", x.status(4), 300);
+        due.is("its runs", x.cellOf(6, 5), 1);
+        due.is("left", x.status(3), 1);
+        x.begin();
+        x.write(2, 8);
+        x.read(5);
+        due.is("what it reads is clean", x.cellOf(5, 3), 0);
+        x.end();
+        due.is("it is taken out, and nothing runs for it", x.status(4), 399);
+        due.is("left", x.status(3), 1);
+    }
+
     private static void noFlushBehindOthers() {
         due.says("FLUSH behind these calls alone");
         PulledSignals x = endless();
         x.source(1, Due.NONE);
         x.scope(Due.NONE);
+        due.is("source, scope", x.status(4), 101);
         Due.memo(x, "a+b");
-        x.begin();
+        due.is("feed, memo", x.status(4), 101);
         x.kept(0);
         x.plain(0);
         x.whatIf(2, 5, 1);
         x.aim(2, 1, 3);
         x.news(2, 1);
-        x.seed(4);
-        x.image();
-        x.back();
-        x.row(0, 2, 3);
-        x.show(1, 0);
-        x.says(1, 2);
         x.cellOf(0, 10);
+        x.reads(3, 0);
+        x.spelled(0, 0);
         x.reaches(0, 1);
         x.colours(0);
-        due.is("log", x.status(4), 101);
+        x.signs(1, 2, 3);
+        due.is("questions", x.status(4), 101);
+        x.row(0, 2, 3);
+        x.set(0, 1, 2);
+        x.copy(0, 0, 0, 1, 2);
+        x.element(0, 1);
+        x.judge(0, 1);
+        x.show(1, 0);
+        x.says(1, 2);
+        x.holds(1);
+        x.log(0);
+        x.logged(0);
+        x.queued(0);
+        x.wipe();
+        due.is("shelves and lists", x.status(4), 101);
+        x.seed(4);
+        x.image();
+        due.is("image", x.status(4), 101);
+        x.back();
+        due.is("back", x.status(4), 101);
         due.is("left", x.status(3), 1);
+        x.begin();
+        due.is("begin", x.status(4), 101);
         x.write(2, 9);
         Due.effect(x, "c");
         Due.reform(x, 7, "a");
         x.dispose(5);
         x.read(2);
+        due.is("left and the new one", x.status(3), 2);
         x.read(0);
         x.days(2);
+        x.begin();
+        x.end();
         due.is("in a batch", x.status(4), 101);
         due.is("left, the new one, and a reader of what read() worked out", x.status(3), 3);
         x.end();

@@ -41,8 +41,8 @@ public final class RoomTest {
     private static long full() {
         PulledSignals x = new PulledSignals();
         long first = made();
-        int calls = 0;
         x.source(1, -1);
+        int calls = 1;
         for (int c = 1; c < 24; c++) {
             for (int i = Math.max(0, c - 6); i < c; i++) {
                 x.feed('a' + i);
@@ -53,7 +53,7 @@ public final class RoomTest {
             x.memo(-1);
             calls += 2;
         }
-        while (calls < 512) {
+        while (calls + 8 <= 512) {
             x.news(0, calls);
             x.aim(0, 23, Integer.MAX_VALUE);
             x.days(60);

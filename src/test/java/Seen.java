@@ -3,6 +3,8 @@
  * be held against each other. An object with 24 cells takes some 400 calls.
  */
 final class Seen {
+    private static final int MEMO = 3;
+    private static final int EFFECT = 4;
     private static final int SCOPE = 5;
     private static final int FIRST_REFUSAL = 12;
     private static final int REFUSALS = 5;
@@ -23,21 +25,22 @@ final class Seen {
     }
 
     private static void cells(PulledSignals x, StringBuilder text) {
-        for (int c = 0; c < x.status(0); c++) {
+        int count = x.status(0);
+        for (int c = 0; c < count; c++) {
+            int[] told = new int[11];
             text.append("\ncell ").append(c).append(':');
-            for (int what = 0; what <= 10; what++) {
-                text.append(' ').append(x.cellOf(c, what));
+            for (int what = 0; what < told.length; what++) {
+                told[what] = x.cellOf(c, what);
+                text.append(' ').append(told[what]);
             }
-            for (int i = 0; i < x.cellOf(c, 6); i++) {
+            for (int i = 0; i < told[6]; i++) {
                 text.append(" read ").append(x.reads(c, i));
             }
-            if (x.cellOf(c, 0) != SCOPE) {
+            if (told[0] != SCOPE) {
                 text.append(" kept ").append(x.kept(c));
             }
-        }
-        for (int c = 0; c < x.status(0); c++) {
-            if (x.cellOf(c, 0) == 3 || x.cellOf(c, 0) == 4) {
-                text.append("\nformula ").append(c).append(": ").append(formula(x, c)).append(" plain ").append(x.plain(c));
+            if (told[0] == MEMO || told[0] == EFFECT) {
+                text.append(" formula ").append(formula(x, c)).append(" plain ").append(x.plain(c));
             }
         }
     }
@@ -59,11 +62,13 @@ final class Seen {
             text.append(' ').append(x.log(i)).append('=').append(x.logged(i));
         }
         text.append("\ndisposed");
-        for (int i = 0; i < Math.min(60, x.status(5)); i++) {
+        int gone = Math.min(60, x.status(5));
+        for (int i = 0; i < gone; i++) {
             text.append(' ').append(x.disposed(i));
         }
         text.append("\nqueue");
-        for (int i = 0; i < x.status(3); i++) {
+        int queued = x.status(3);
+        for (int i = 0; i < queued; i++) {
             text.append(' ').append(x.queued(i));
         }
     }
@@ -71,8 +76,9 @@ final class Seen {
     private static void shelves(PulledSignals x, StringBuilder text) {
         text.append("\nshelves");
         for (int s = 0; s < 8; s++) {
-            text.append(' ').append(x.holds(s));
-            if (x.holds(s) >= 0 && x.holds(s) < 10) {
+            int held = x.holds(s);
+            text.append(' ').append(held);
+            if (held >= 0 && held < 10) {
                 for (int i : PLACES) {
                     text.append(',').append(x.element(s, i));
                 }
